@@ -1340,9 +1340,11 @@ public final class PackedCases {
 
         int firstToRight(int people) {
             for (int person = 0; person < people; person++) {
-                int others = round(person, people) & ~(1 << person);
-                if (others != 0) {
-                    return 10 * person + Integer.numberOfTrailingZeros(others);
+                int round = round(person, people);
+                for (int other = person + 1; other < people; other++) {
+                    if ((round & 1 << other) != 0) {
+                        return 10 * person + other;
+                    }
                 }
             }
             return NONE;
@@ -1609,10 +1611,10 @@ public final class PackedCases {
 
         /** Whether one is in hangs on one's own days alone, so only these are followed. */
         int waysIn(House house, State from, int person, int days, int tenths) {
-            clear(ways);
+            wipe(ways);
             ways[from.out(person)] = 1;
             for (int day = from.day(); day < from.day() + days; day++) {
-                clear(nextWays);
+                wipe(nextWays);
                 for (int out = 0; out < ways.length; out++) {
                     int behind = outBehind(house, person, out, day);
                     nextWays[out] += ways[out] * tenths;
@@ -1632,7 +1634,7 @@ public final class PackedCases {
             return leavesOn(house.every[person], day) ? house.away[person] : 0;
         }
 
-        private static void clear(int[] row) {
+        private static void wipe(int[] row) {
             for (int at = 0; at < row.length; at++) {
                 row[at] = 0;
             }
@@ -1667,7 +1669,7 @@ public final class PackedCases {
         private int mostFrom(int thing, int room) {
             int use = 0;
             for (int many = mostPieces(thing, room); many >= 0; many--) {
-                use = Math.max(use, useWith(thing, many, room));
+                use = Math.max(use, useBy(thing, many, room));
             }
             return use;
         }
@@ -1677,7 +1679,7 @@ public final class PackedCases {
             return weight > 0 ? Math.min(room / weight, now.stock(thing)) : 0;
         }
 
-        private int useWith(int thing, int many, int room) {
+        private int useBy(int thing, int many, int room) {
             return many * told.use[thing] + most[thing + 1][room - many * told.weight[thing]];
         }
 
@@ -1695,7 +1697,7 @@ public final class PackedCases {
 
         private int firstMany(int thing, int room) {
             for (int many = mostPieces(thing, room); many > 0; many--) {
-                if (useWith(thing, many, room) == most[thing][room]) {
+                if (useBy(thing, many, room) == most[thing][room]) {
                     return many;
                 }
             }

@@ -84,7 +84,7 @@ public final class ActsTest {
         CHECK.due("stock of 0", x.thing(0, 2), 5);
         CHECK.due("stock of 1", x.thing(1, 2), 0);
         // what is in a case goes with it and stays in it; it holds what its owner's does
-        PackedCases y = Texts.with("thing 2 0 9;person 9 8 7 0 by 2;person 3 3 1 0 by 2;person 0 9 1 0;puts 2;");
+        PackedCases y = Texts.with("thing 2 0 9;person 9 8 7 0 by 2;person 3 3 1 0 by 2;person 0 9 1 0;puts 2+day;");
         y.days(1);
         CHECK.due("0 has two", y.in(0, 0), 2);
         CHECK.due("1 has one", y.in(1, 0), 1);

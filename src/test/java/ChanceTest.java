@@ -87,6 +87,17 @@ public final class ChanceTest {
         CHECK.due("14 / 3 is 4, too", oneTakes(7, 2).game(1, 3, 0), 2);
         CHECK.due("15 / 3 is more", oneTakes(5, 3).game(1, 3, 0), 1);
         CHECK.due("15 / 3 is more", oneTakes(5, 3).game(1, 3, 1), 1);
+        PackedCases y = Texts.with("thing 1 9 9;person 4 9 8 9 by 1;person 0 9 8 0;person 4 9 8 9 by 3;person 0 9 8 0;"
+                + "puts fond;");
+        CHECK.due("neither is cross", y.game(1, 3, 0), 1);
+        CHECK.due("neither is cross", y.game(1, 3, 1), 0);
+        // 0 takes all four ahead of 1, unless 2 is cross: what 3 gains hangs on it
+        PackedCases z = Texts.with("thing 1 9 4;person 9 9 8 9 by 2;person 9 9 8 9 by 3;person 0 9 8 0;person 0 9 8 0;"
+                + "puts fond;");
+        CHECK.due("3 is cross, as 2 is not", z.game(2, 3, 0), 1);
+        CHECK.due("3 is cross, as 2 is not", z.game(2, 3, 1), 1);
+        CHECK.due("3 is cross, told the other way", z.game(3, 2, 0), 1);
+        CHECK.due("3 is cross, told the other way", z.game(3, 2, 1), 10);
         // together, then cut down: 7 and 8 are 15
         PackedCases x = Texts.with("thing 1 8 1;thing 1 7 1;person 1 9 8 9 by 2;person 1 9 8 9 by 2;person 0 9 8 0;"
                 + "person 0 9 8 0 by 4;person 0 9 8 0;puts fond;");
@@ -173,7 +184,7 @@ public final class ChanceTest {
 
     /** 0 takes what puts gives on day 0 and is liked by it on day 1; 1 stays out, as liked as at first. */
     private static void bought() {
-        PackedCases x = Texts.with("thing 1 9 0;person 9 2 1 5 by 1;person 0 9 8 5;puts 9;feels had;");
+        PackedCases x = Texts.with("thing 1 1 0;person 9 2 1 5 by 1;person 0 9 8 5;puts 9;feels had;");
         PackedCases y = Texts.with("thing 1 9 8;person 9 2 1 5 by 1;person 0 9 8 5;puts stock/99;feels had;");
         PackedCases z = Texts.with("thing 1 9 9;person 9 2 1 5 by 1;person 0 9 8 5;puts stock/100;feels had;");
         for (int n = 0; n < 10; n++) {
@@ -187,7 +198,7 @@ public final class ChanceTest {
                 draw(1);
             }
             if (lot >= 2 && draw(5) >= 2) {
-                CHECK.due("one is bought by " + first, x.years(first, 2, 1), lot == 2 ? 14 : 5);
+                CHECK.due("one is bought by " + first, x.years(first, 2, 1), lot == 2 ? 6 : 5);
                 CHECK.due("the 99th is bought by " + first, y.years(first, 2, 1), lot == 2 ? 14 : 5);
                 CHECK.due("none above 99 is bought by " + first, z.years(first, 2, 1), 5);
             }

@@ -69,6 +69,9 @@ public final class ReadingTest {
         CHECK.due("status as it was", x.count(12), 1);
         CHECK.due("house 12", x.house(12), 0);
         CHECK.due("no fault", x.fault(), -1);
+        Texts.feed(x, "thing 1 0 12345;");
+        CHECK.due("a number that goes on behind the text", x.house(11), 1);
+        CHECK.due("its place", x.fault(), 11);
     }
 
     private static void fault(String text, int kind, int place) {
@@ -95,6 +98,8 @@ public final class ReadingTest {
         good("puts 1;feels 1;");
         good("feels fond+had+away+day;puts fond+use+weight+stock+room+day;");
         good(THING + " ".repeat(688));
+        fault(" ".repeat(695) + "thing", 1, 700);
+        fault(THING + " ".repeat(687) + "1", 1, 699);
         good("puts 1" + "+1".repeat(346) + ";");
         good("puts not 1 and not not 0 or not(1<2);");
     }
@@ -106,6 +111,13 @@ public final class ReadingTest {
         fault("thing", 1, 5);
         fault("thin 1 0 0;", 1, 0);
         fault("things 1 0 0;", 1, 0);
+        fault("xhing 1 0 0;", 1, 0);
+        fault("thingz 1 0 0;", 1, 0);
+        fault("thinga 1 0 0;", 1, 0);
+        fault("thing{1 0 0;", 1, 5);
+        fault("thing`1 0 0;", 1, 5);
+        fault("thing:1 0 0;", 1, 5);
+        fault("thing,1 0 0;", 1, 5);
         fault("Thing 1 0 0;", 1, 0);
         fault("  ;", 1, 2);
         fault("5;", 1, 0);

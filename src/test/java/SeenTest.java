@@ -60,6 +60,8 @@ public final class SeenTest {
         fonder("it stays, and so is the other", x, 5, 5, 0);
         x.see(0, 0, 10, 0);
         fonder("crosser then", x, 1, 5, 0);
+        x.see(0, 1, 10, 1);
+        fonder("but another one is in it", x, 1, 5, 0);
         x.see(0, 0, 9, 1);
         fonder("but it came back", x, 0, -1, 0);
         x.forget();
@@ -104,6 +106,7 @@ public final class SeenTest {
         x.see(0, 0, 0, 1);
         CHECK.due("none by none", x.look(0), -1);
         CHECK.due("no number", x.look(1), 0);
+        fonder("all of seven people", Texts.with("person 0 2 1 9;".repeat(7)), 63, 0, 1);
         PackedCases y = Texts.with("thing 1 0 9;thing 1 5 9;person 60 9 8 0 by 1;person 0 9 1 0;");
         CHECK.due("told the other way", y.look(0), 1);
         CHECK.due("two numbers", y.look(1), 2);
@@ -111,6 +114,8 @@ public final class SeenTest {
         CHECK.due("as many as fond", z.look(1), 10);
         CHECK.due("of the first, which both take alike", z.look(0), 0);
         CHECK.due("the day stays", z.count(2), 0);
+        PackedCases v = Texts.with("thing 1 0 9;person 0 5 1 0;person 60 9 1 0 by 0;puts fond;feels fond;");
+        CHECK.due("behind 10 days 1 is out, packed by 0 who came back", v.look(1), 10);
         PackedCases w = Texts.with("person 60 9 1 0 by 1;person 0 5 1 0;");
         CHECK.due("without things", w.look(0), -1);
         CHECK.due("without things", w.look(1), 0);
