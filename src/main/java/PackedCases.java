@@ -346,12 +346,15 @@ public final class PackedCases {
         needPerson(person);
         needPerson(other);
         needBetween(days, 1, FURTHEST);
-        int both = 1 << person | 1 << other;
+        return daysWithNoneOut(1 << person | 1 << other, days);
+    }
+
+    private int daysWithNoneOut(int people, int days) {
         int many = 0;
         walk.begin(told, now);
         for (int behind = 1; behind <= days; behind++) {
             walk.passDay();
-            if ((walk.state.whoIsOut(told.people) & both) == 0) {
+            if ((walk.state.whoIsOut(told.people) & people) == 0) {
                 many++;
             }
         }
@@ -362,15 +365,15 @@ public final class PackedCases {
         needPerson(person);
         needPerson(other);
         needBetween(days, 1, FURTHEST);
-        return daysWithoutAny(1 << person | 1 << other, days);
+        return daysWithNoneIn(1 << person | 1 << other, days);
     }
 
     public int alone(int days) throws IllegalArgumentException {
         needBetween(days, 1, FURTHEST);
-        return daysWithoutAny((1 << told.people) - 1, days);
+        return daysWithNoneIn((1 << told.people) - 1, days);
     }
 
-    private int daysWithoutAny(int people, int days) {
+    private int daysWithNoneIn(int people, int days) {
         int many = 0;
         walk.begin(told, now);
         for (int behind = 1; behind <= days; behind++) {
