@@ -75,14 +75,11 @@ public final class ReadingTest {
     }
 
     private static void fault(String text, int kind, int place) {
-        PackedCases x = new PackedCases();
-        CHECK.due("house of " + text, Texts.house(x, text), kind);
-        CHECK.due("place in " + text, x.fault(), place);
-        CHECK.due("status behind " + text, x.count(12), kind == 0 ? 0 : 1);
+        Texts.reads(CHECK, text, kind, place);
     }
 
     private static void good(String text) {
-        fault(text, 0, -1);
+        Texts.reads(CHECK, text);
     }
 
     private static void goodTexts() {

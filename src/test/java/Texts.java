@@ -25,6 +25,18 @@ final class Texts {
         return x;
     }
 
+    /** Reads a text with an object of its own: the FAULT, its place, and whether it was counted as refused. */
+    static void reads(Check check, String text, int fault, int place) {
+        PackedCases x = new PackedCases();
+        check.due("house of " + text, house(x, text), fault);
+        check.due("place in " + text, x.fault(), place);
+        check.due("refused behind " + text, x.count(12), fault == 0 ? 0 : 1);
+    }
+
+    static void reads(Check check, String text) {
+        reads(check, text, 0, -1);
+    }
+
     static int[][] fives(String text) {
         byte[] bytes = text.getBytes(StandardCharsets.ISO_8859_1);
         int[][] fives = new int[(bytes.length + 19) / 20][5];
