@@ -404,6 +404,7 @@ public final class ActEdgesTest {
         PackedCases x = Texts.with(HOUSE);
         CHECK.due("none", x.restore(), false);
         CHECK.due("nothing changes", x.count(9), 0);
+        CHECK.due("none of a new object", new PackedCases().restore(), false);
         x.image();
         x.days(3);
         x.image();

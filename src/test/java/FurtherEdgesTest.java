@@ -14,6 +14,7 @@ public final class FurtherEdgesTest {
         daysOfOneAlone();
         ofOneAndTheSame();
         mostWanted();
+        mostWantedOfAll();
         least();
         fondest();
         whoHas();
@@ -187,6 +188,23 @@ public final class FurtherEdgesTest {
         CHECK.due("two", x.in(1, 0), 2);
         CHECK.due("three", x.in(1, 1), 3);
         CHECK.due("together", x.count(8), 0);
+    }
+
+    /** The same with as many THINGS and PEOPLE as there may be. */
+    private static void mostWantedOfAll() {
+        for (int most = 0; most < 6; most++) {
+            StringBuilder text = new StringBuilder();
+            for (int thing = 0; thing < 6; thing++) {
+                text.append("thing ").append(1 + thing).append(" 0 9;");
+            }
+            text.append("person 20 9 8 0 by 6;".repeat(6)).append("person 0 9 8 0;");
+            PackedCases x = Texts.with(text.append("puts weight=").append(most + 1).append(";").toString());
+            CHECK.due("all are empty", x.count(8), -1);
+            x.days(1);
+            CHECK.due("six of " + most, x.count(8), most);
+            x.swap(0, 6);
+            CHECK.due("whoever has them", x.count(8), most);
+        }
     }
 
     /** "LEAST of a THING in so many DAYS (0 to 100): the least STOCK that there is now, or behind one of them." */

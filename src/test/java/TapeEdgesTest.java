@@ -15,6 +15,7 @@ public final class TapeEdgesTest {
         wrongLengths();
         nothingChangesByAWrongLength();
         allAnew();
+        allAnewAgain();
         allStays();
         whatIsGone();
         placeOfTheLatestFault();
@@ -178,6 +179,39 @@ public final class TapeEdgesTest {
         Texts.house(z, "thing 1 3 9;person 9 2 1 3 by 1;person 0 9 8 0;");
         CHECK.due("puts is gone", z.packed(0, 0, 1), 1);
         CHECK.due("feels is gone", z.then(0, 2, 1), 2);
+    }
+
+    /** Nothing of any earlier text is left, be it one with a FAULT: one object after another house reads as a new one. */
+    private static void allAnewAgain() {
+        String two = "person 60 2 1 4 by 1;person 0 9 8 0;";
+        String[] texts = {
+            "thing 1 7 9;thing 2 7 9;" + two + "puts 4;feels 3;",
+            "thing 1 7 9;" + two + "person 5 2 1 1;puts 2;feels 6;",
+            "thing 1 7 9;" + two + "puts 1+2;feels fond+1;",
+            "thing 1 7 9;thing 1 1 1;thing 1 1 1;" + two + "puts 9;feels 9;?",
+            "thing 1 7 9;" + two,
+            "puts 5;thing 1 7 9;" + two,
+            "feels 8;thing 1 3 9;" + two,
+            "thing 1 7 9;" + two + "person 1 2 1 1;person 1 2 1 1;puts (1+",
+            "thing 1 7 9;" + two + "feels had/7;puts 6;"};
+        for (int first = 0; first < texts.length; first++) {
+            PackedCases x = new PackedCases();
+            int refused = 0;
+            for (int at = 0; at < texts.length; at++) {
+                String text = texts[(first + at) % texts.length];
+                if (Texts.house(x, text) != 0) {
+                    refused++;
+                    continue;
+                }
+                PackedCases y = Texts.with(text);
+                Snapshot due = Snapshot.of(y).withCount(12, refused);
+                CHECK.due("as a new one: " + text, Snapshot.of(x).isLike(due), true);
+                CHECK.due("puts: " + text, x.packed(0, 0, 1), y.packed(0, 0, 1));
+                CHECK.due("feels: " + text, x.then(0, 2, 1), y.then(0, 2, 1));
+            }
+        }
+        CHECK.due("puts by hand", Texts.with(texts[2]).packed(0, 0, 1), 3);
+        CHECK.due("feels by hand", Texts.with(texts[2]).then(0, 2, 1), 5);
     }
 
     /** "or the FAULT (all stays)". */
