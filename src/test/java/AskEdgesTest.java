@@ -1,3 +1,8 @@
+import java.util.ArrayList;
+import java.util.HashMap;
+import java.util.List;
+import java.util.Map;
+
 /** Part 3 of the Terms (promises 5 to 8, 15 to 24): each sentence with a bound, at the bound and on both sides of it. */
 public final class AskEdgesTest {
     private static final Check CHECK = new Check();
@@ -26,10 +31,12 @@ public final class AskEdgesTest {
         balanceByFewest();
         packsFor();
         ring();
+        ringOfNone();
         chain();
         mixed();
         toRight();
         firstSwap();
+        everyMix();
         inAll();
         CHECK.end();
     }
@@ -334,6 +341,26 @@ public final class AskEdgesTest {
         }
     }
 
+    /** "0, if not": one has no PACKER, or comes to a ring of others. */
+    private static void ringOfNone() {
+        for (int people = 1; people <= 7; people++) {
+            PackedCases x = Texts.with("person 0 2 1 0;".repeat(people));
+            PackedCases y = Texts.with("person 0 2 1 0;" + "person 0 2 1 0 by 0;".repeat(people - 1));
+            for (int person = 0; person < people; person++) {
+                CHECK.due("nobody packs", x.person(person, 8), 0);
+                CHECK.due("0 packs for all others", y.person(person, 8), 0);
+            }
+            if (people < 2) {
+                continue;
+            }
+            y.packer(0, people - 1);
+            for (int person = 0; person < people; person++) {
+                boolean isOfTwo = person == 0 || person == people - 1;
+                CHECK.due("the first and the last", y.person(person, 8), isOfTwo ? 1 | 1 << people - 1 : 0);
+            }
+        }
+    }
+
     /** "CHAIN: how many PACKERS .. until one has none (0: one has none); none, if it comes round." */
     private static void chain() {
         for (int people = 1; people <= 7; people++) {
@@ -416,6 +443,50 @@ public final class AskEdgesTest {
         x.swap(1, 3);
         CHECK.due("two of three", x.count(5), 1);
         CHECK.due("they are left", x.count(6) % 10, 6);
+    }
+
+    /** TO RIGHT and the FIRST of every way in which five have mixed them up, by trying all swaps from the right one on. */
+    private static void everyMix() {
+        Map<String, Integer> swaps = new HashMap<>();
+        List<String> found = new ArrayList<>(List.of("01234"));
+        swaps.put("01234", 0);
+        for (int at = 0; at < found.size(); at++) {
+            for (int two = 0; two < 25; two++) {
+                String next = swapped(found.get(at), two / 5, two % 5);
+                if (swaps.putIfAbsent(next, swaps.get(found.get(at)) + 1) == null) {
+                    found.add(next);
+                }
+            }
+        }
+        CHECK.due("all ways", found.size(), 120);
+        for (String cases : found) {
+            PackedCases x = Texts.with("person 0 2 1 0;".repeat(5));
+            for (int person = 0; person < 5; person++) {
+                int has = x.near(cases.charAt(person) - '0', 1);
+                if (has != person) {
+                    x.swap(person, has);
+                }
+            }
+            CHECK.due("to right " + cases, x.count(5), swaps.get(cases));
+            CHECK.due("the first of " + cases, x.count(6), firstOf(cases, swaps));
+        }
+    }
+
+    private static String swapped(String cases, int person, int other) {
+        StringBuilder next = new StringBuilder(cases);
+        next.setCharAt(person, cases.charAt(other));
+        next.setCharAt(other, cases.charAt(person));
+        return next.toString();
+    }
+
+    private static int firstOf(String cases, Map<String, Integer> swaps) {
+        for (int two = 0; two < 25; two++) {
+            boolean isInOrder = two / 5 < two % 5;
+            if (isInOrder && swaps.get(swapped(cases, two / 5, two % 5)) < swaps.get(cases)) {
+                return two / 5 * 10 + two % 5;
+            }
+        }
+        return -1;
     }
 
     /** "IN ALL: how much WEIGHT all CASES and the CUPBOARD have, together." */

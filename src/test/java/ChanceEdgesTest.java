@@ -18,6 +18,7 @@ public final class ChanceEdgesTest {
         noneRests();
         allRest();
         casesWhichThoseHave();
+        eachForTheOther();
         nobodyIsCrosserByAGame();
         noYears();
         howOften();
@@ -205,6 +206,18 @@ public final class ChanceEdgesTest {
         CHECK.due("together, then cut down", y.game(3, 4, 1), 1);
         y.packer(1, 4);
         CHECK.due("each alone", y.game(3, 4, 1), 11);
+    }
+
+    /** "two who both are PACKERS": of one another, too; 0 leaves ahead of 1, for whom nobody is in then. */
+    private static void eachForTheOther() {
+        PackedCases x = Texts.with("thing 1 5 3;person 60 9 8 9 by 1;person 60 9 8 9 by 0;puts fond;");
+        CHECK.due("1 gains 15 / 3 or 4, 0 none or 4: how many", x.game(0, 1, 0), 1);
+        CHECK.due("0 is cross", x.game(0, 1, 1), 10);
+        CHECK.due("0 is cross, told the other way", x.game(1, 0, 1), 1);
+        x.mend(0, 2);
+        CHECK.due("1 gains 10 / 3 or 4", x.game(0, 1, 1), 11);
+        x.mend(0, 0);
+        CHECK.due("whose FOND is 0 by now", x.game(0, 1, 1), 11);
     }
 
     private static void nobodyIsCrosserByAGame() {

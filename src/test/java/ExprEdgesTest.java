@@ -29,6 +29,7 @@ public final class ExprEdgesTest {
         fiveDigits();
         numbersInAnExpr();
         withinSixOthers();
+        asMuchWithinAsMayBe();
         seventhNot();
         noValue();
         oneself();
@@ -449,6 +450,28 @@ public final class ExprEdgesTest {
         puts("(((((5)))))", 5);
         puts("1+(1+(1+(1+(1+(2)))))", 7);
         puts("1+(2*(3-(0 or(1 and(not 0)))))", 5);
+    }
+
+    /** Six EXPRs within one another, of each of which five PARTS wait for the next: 'a or b and c < d + e * (..)'. */
+    private static void asMuchWithinAsMayBe() {
+        int[] plain = {0, 1, 0, 0, 1};
+        for (int changed = 0; changed < 30; changed++) {
+            for (int last = 0; last <= 2; last++) {
+                String expr = "" + last;
+                int value = last;
+                for (int within = 5; within >= 0; within--) {
+                    int[] parts = plain.clone();
+                    if (within == changed / 5) {
+                        parts[changed % 5] ^= 1;
+                    }
+                    boolean isLess = parts[2] < parts[3] + parts[4] * value;
+                    value = parts[0] != 0 || parts[1] != 0 && isLess ? 1 : 0;
+                    expr = parts[0] + " or " + parts[1] + " and " + parts[2] + "<" + parts[3] + "+" + parts[4] + "*"
+                            + (within == 5 ? expr : "(" + expr + ")");
+                }
+                puts(expr, value);
+            }
+        }
     }
 
     /** "2 .. the seventh 'not' side by side". */

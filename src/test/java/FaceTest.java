@@ -37,7 +37,36 @@ public final class FaceTest {
                 && Modifier.isFinal(PackedCases.class.getModifiers()), true);
         check.due("NONE", PackedCases.NONE, -1);
         source(check, Files.readString(SOURCE));
+        shapes(check, PackedCases.class);
+        for (Class<?> inside : PackedCases.class.getDeclaredClasses()) {
+            check.due(inside.getName() + " is static", Modifier.isStatic(inside.getModifiers()), true);
+            check.due(inside.getName() + " is not public", Modifier.isPublic(inside.getModifiers()), false);
+            shapes(check, inside);
+        }
         check.end();
+    }
+
+    /** "No private method bears the name of a public one"; at most seven parameters, some twenty fields. */
+    private static void shapes(Check check, Class<?> of) {
+        Set<String> face = new TreeSet<>();
+        for (Method m : PackedCases.class.getDeclaredMethods()) {
+            if (Modifier.isPublic(m.getModifiers())) {
+                face.add(m.getName());
+            }
+        }
+        for (Method m : of.getDeclaredMethods()) {
+            String name = of.getSimpleName() + "." + m.getName();
+            check.due(name + " is private and of the face",
+                    Modifier.isPrivate(m.getModifiers()) && face.contains(m.getName()), false);
+            check.due(name + " takes more than seven", m.getParameterCount() > 7, false);
+        }
+        int fields = 0;
+        for (Field f : of.getDeclaredFields()) {
+            fields += Modifier.isStatic(f.getModifiers()) ? 0 : 1;
+            check.due(f + " is static and not final",
+                    Modifier.isStatic(f.getModifiers()) && !Modifier.isFinal(f.getModifiers()), false);
+        }
+        check.due(of.getSimpleName() + " has more than twenty fields", fields > 20, false);
     }
 
     private static Set<String> documented(String doc) {

@@ -20,9 +20,11 @@ public final class SeenEdgesTest {
         seenNow();
         seenBehindThirty();
         inTheCaseThatOneHas();
+        ofEachThing();
         theFirst();
         lookBehindTen();
         mostUnlike();
+        asUnlikeAsMayBe();
         withoutAny();
         CHECK.end();
     }
@@ -231,6 +233,26 @@ public final class SeenEdgesTest {
         fonder("1 has it now", x, 27, 0, 1);
     }
 
+    /** "how many of a THING .. were in one's CASE": each one takes three of the THING whose USE is FOND, and no other. */
+    private static void ofEachThing() {
+        StringBuilder text = new StringBuilder();
+        for (int at = 0; at < 6; at++) {
+            text.append("thing 1 ").append(at + 1).append(" 9;person 60 9 1 ").append(at + 1).append(" by 6;");
+        }
+        PackedCases x = Texts.with(text.append("person 0 9 1 9;puts (use=fond)*3;feels fond;").toString());
+        for (int person = 0; person < 6; person++) {
+            for (int thing = 0; thing < 6; thing++) {
+                x.forget();
+                x.see(person, thing, 1, 3);
+                if (thing == person) {
+                    fonder("three by now", x, 54, person == 0 ? 10 : 0, 1);
+                } else {
+                    fonder(person + " has three of " + thing, x, 1, 10 * person + thing + 1, 0);
+                }
+            }
+        }
+    }
+
     /** "the first (10 by who, and FOND)". */
     private static void theFirst() {
         for (int who = 0; who < 6; who++) {
@@ -293,6 +315,18 @@ public final class SeenEdgesTest {
         v.see(1, 0, 10, 1);
         CHECK.due("by these alone: which", v.look(0), 1);
         CHECK.due("by these alone: 4, 5, 6, 7", v.look(1), 4);
+    }
+
+    /** Of one from 0 to 9, of another one from 9 to 0: nine more or fewer of STOCK, and as many as it is. */
+    private static void asUnlikeAsMayBe() {
+        PackedCases x = Texts.with("thing 1 1 9;person 60 9 8 0 by 6;person 60 9 8 9 by 6;"
+                + "person 60 9 8 5 by 6;".repeat(4) + "person 0 9 8 5;puts fond;feels fond;");
+        for (int bought = 0; bought < 10; bought++) {
+            x.buy(0, 9);
+        }
+        CHECK.due("63 couples", x.fonder(0), 63);
+        CHECK.due("19 numbers", x.look(1), 19);
+        CHECK.due("of the one thing", x.look(0), 0);
     }
 
     /** "none without any": without a couple, and without THINGS. */

@@ -16,6 +16,7 @@ public final class TapeEdgesTest {
         nothingChangesByAWrongLength();
         allAnew();
         allAnewAgain();
+        asksAnew();
         allStays();
         whatIsGone();
         placeOfTheLatestFault();
@@ -212,6 +213,34 @@ public final class TapeEdgesTest {
         }
         CHECK.due("puts by hand", Texts.with(texts[2]).packed(0, 0, 1), 3);
         CHECK.due("feels by hand", Texts.with(texts[2]).then(0, 2, 1), 5);
+    }
+
+    /** Nor does what was asked of an earlier house tell on what is asked of the next one. */
+    private static void asksAnew() {
+        String much = "thing 1 9 9;".repeat(6) + "person 60 2 1 9 by 1;" + "person 60 9 8 9 by 0;".repeat(6) + "puts fond;";
+        String[] texts = {much, "thing 2 3 4;person 60 3 2 5 by 1;person 50 2 1 5 by 0;", "thing 7 1 2;", "person 9 2 1 5;",
+            much, "", "thing 1 1 1;thing 2 1 1;person 5 3 1 1 by 1;person 4 2 1 2 by 0;puts 2;feels had;"};
+        PackedCases x = new PackedCases();
+        for (String text : texts) {
+            PackedCases y = new PackedCases();
+            Texts.house(x, text);
+            Texts.house(y, text);
+            CHECK.due("asked of " + text, asked(x).equals(asked(y)), true);
+        }
+    }
+
+    private static String asked(PackedCases x) {
+        StringBuilder row = new StringBuilder();
+        for (int person = 0; person < x.count(1); person += 3) {
+            for (int thing = -1; thing < x.count(0); thing += 2) {
+                row.append(x.best(person, thing)).append(' ');
+            }
+            row.append(x.trains(person, 5, 3)).append(' ').append(x.load(person, 9)).append(' ');
+        }
+        row.append(x.balance(6)).append(' ').append(x.toHold()).append(' ').append(x.fonder(0)).append(' ');
+        row.append(x.look(0)).append(' ').append(x.look(1)).append(' ').append(x.years(7, 50, 1)).append(' ');
+        row.append(x.later(9, 2)).append(' ').append(x.alone(20)).append(' ').append(x.emptiest(20)).append(' ');
+        return row.append(x.count(1) > 1 ? x.game(0, 1, 0) : 0).toString();
     }
 
     /** "or the FAULT (all stays)". */
